@@ -1,0 +1,368 @@
+/** Promises 16 to 20: pass, foresee, advise, share, digest. */
+public final class DaysTest {
+    private static final int LEAST = Integer.MIN_VALUE;
+    private static final int MOST = Integer.MAX_VALUE;
+
+    public static void main(String[] args) {
+        passWork();
+        passDust();
+        passStone();
+        passManyWheels();
+        passMill();
+        passRefused();
+        foresee();
+        foreseeChangesNothing();
+        foreseeRefused();
+        advise();
+        adviseOfTheDays();
+        adviseOfTheState();
+        adviseRefused();
+        share();
+        digest();
+        digestOfMany();
+        Due.end();
+    }
+
+    /** One bed and quarriers of these skills, all at it. */
+    private static GritWheels at(int grit, int flaw, int stone, int... skills) {
+        GritWheels x = new GritWheels();
+        x.open(grit, flaw, stone);
+        for (int i = 0; i < skills.length; i++) {
+            x.hire(skills[i]);
+            x.send(i, 0);
+        }
+        return x;
+    }
+
+    private static void passWork() {
+        GritWheels x = at(1, 0, 200, 7);
+        Due.is("7 work", 0, x.pass(1));
+        Due.is("14 work", 1, x.pass(1));
+        Due.is("4 left", 4, x.quarrier(0, 3));
+        Due.is("day 1, size 1 + 3", 4, x.wheel(0, 1));
+        Due.is("stone", 196, x.bed(0, 2));
+        Due.is("11, 18, 15", 2, x.pass(3));
+        Due.is("day 2, size 4", 4, x.wheel(1, 1));
+        Due.is("day 4, size 4", 4, x.wheel(2, 1));
+        Due.is("5 left", 5, x.quarrier(0, 3));
+        Due.is("12, 9, 16, 13", 3, x.pass(4));
+        Due.is("the day", 9, x.count(0));
+        GritWheels y = at(1, 0, 200, 5, 1);
+        y.pass(10);
+        Due.is("day 9, size 1 + 2 + 1", 4, y.wheel(4, 1));
+        Due.is("day 9, size 1 + 0 + 1, behind the first quarrier", 2, y.wheel(5, 1));
+        Due.is("wheels", 6, y.count(3));
+    }
+
+    private static void passDust() {
+        GritWheels x = at(8, 0, 0, 3);
+        x.hire(9);
+        x.pass(6);
+        Due.is("6 by 9", 54, x.quarrier(0, 2));
+        Due.is("6 by 3", 18, x.quarrier(0, 3));
+        x.pass(1);
+        Due.is("63 less 4 on the same day", 59, x.quarrier(0, 2));
+        Due.is("and worked", 21, x.quarrier(0, 3));
+        x.pass(1);
+        Due.is("68 less 4", 64, x.quarrier(0, 2));
+        Due.is("worked with 59", 24, x.quarrier(0, 3));
+        x.pass(1);
+        Due.is("64 less 4", 60, x.quarrier(0, 2));
+        x.pass(1);
+        Due.is("60 less 4", 56, x.quarrier(0, 2));
+        Due.is("did not work with 64 and 60", 24, x.quarrier(0, 3));
+        x.send(0, -1);
+        x.pass(7);
+        Due.is("56 less 7 by 7", 7, x.quarrier(0, 2));
+        x.send(0, 0);
+        x.pass(1);
+        x.send(0, -1);
+        x.pass(2);
+        Due.is("16 less 14", 2, x.quarrier(0, 2));
+        x.pass(1);
+        Due.is("not below 0", 0, x.quarrier(0, 2));
+        Due.is("the one at none", 0, x.quarrier(1, 2));
+        Due.is("and its work", 0, x.quarrier(1, 3));
+    }
+
+    private static void passStone() {
+        GritWheels x = at(1, 0, 6, 9, 9);
+        Due.is("two of size 5 from 6", 2, x.pass(2));
+        Due.is("stone is not below 0", 0, x.bed(0, 2));
+        Due.is("size of the second", 5, x.wheel(1, 1));
+        Due.is("none left", 0, x.pass(1));
+        Due.is("work is kept", 17, x.quarrier(0, 3));
+        x.open(1, 0, 200);
+        x.send(0, 1);
+        Due.is("26 work", 2, x.pass(1));
+        Due.is("6 left", 6, x.quarrier(0, 3));
+        Due.is("of bed 1", 1, x.wheel(2, 0));
+        Due.is("day 3, size 6", 6, x.wheel(2, 1));
+        Due.is("stone of bed 1", 188, x.bed(1, 2));
+        Due.is("the other waits", 26, x.quarrier(1, 3));
+    }
+
+    private static void passManyWheels() {
+        GritWheels x = new GritWheels();
+        for (int i = 0; i < 5; i++) {
+            x.open(1, 0, 200);
+        }
+        for (int i = 0; i < 6; i++) {
+            x.hire(1);
+            x.send(i, i % 5);
+        }
+        Due.is("a wheel of each for 10 days", 24, x.pass(40));
+        Due.is("two days of 60 dust", 18, x.pass(35));
+        Due.is("wheels", 42, x.count(3));
+        x.pass(40);
+        Due.is("no more than 60", 60, x.count(3));
+        Due.is("none", 0, x.pass(40));
+        int work = x.quarrier(0, 3);
+        x.smash(0);
+        Due.is("none for a broken one", 0, x.pass(3));
+        Due.is("wheels still", 60, x.count(3));
+        Due.is("work goes on, by the dust", 1, x.quarrier(0, 3) > work ? 1 : 0);
+        Due.is("stone is left", 1, x.bed(4, 2) > 0 ? 1 : 0);
+    }
+
+    private static void passMill() {
+        GritWheels x = at(1, 0, 200, 9, 9, 9, 9, 9);
+        x.setFall(0, 0);
+        x.setFall(1, 2);
+        x.setFall(2, 3);
+        x.setFall(3, 9);
+        x.pass(2);
+        Due.is("rough on day 2", 5, x.count(4));
+        x.pass(1);
+        Due.is("one is dressed by 3", 1, x.count(5));
+        Due.is("the first", 1, x.wheel(0, 3));
+        Due.is("not the second", 0, x.wheel(1, 3));
+        x.smash(1);
+        x.pass(1);
+        Due.is("four are dressed by 9", 5, x.count(5));
+        Due.is("not the broken one", 4, x.wheel(1, 3));
+        Due.is("the sixth", 1, x.wheel(5, 3));
+        Due.is("not the seventh", 0, x.wheel(6, 3));
+        GritWheels y = at(1, 0, 200, 9);
+        y.setFall(1, 3);
+        y.pass(2);
+        Due.is("dressed on the day it is cut", 1, y.wheel(0, 3));
+    }
+
+    private static void passRefused() {
+        GritWheels x = at(1, 0, 200, 9);
+        for (int days : new int[] {-1, 0, 41, LEAST, MOST}) {
+            Due.isIllegal("pass(" + days + ")", x, () -> x.pass(days));
+        }
+        Due.is("1 day", 0, x.pass(1));
+        // dust comes to 60, and is 56 on the same day, so it never rests: 41 by 9 work
+        Due.is("40 days", 36, x.pass(40));
+        Due.is("the day", 41, x.count(0));
+    }
+
+    private static void foresee() {
+        int[] whats = {3, 4, 5, 9};
+        GritWheels x = at(4, 5, 120, 9, 3, 6);
+        x.send(2, -1);
+        x.setFall(2, 0);
+        x.setFall(3, 1);
+        x.pass(1);
+        for (int days = 1; days <= 40; days++) {
+            GritWheels y = at(4, 5, 120, 9, 3, 6);
+            y.send(2, -1);
+            y.setFall(2, 0);
+            y.setFall(3, 1);
+            y.pass(1);
+            y.pass(days);
+            for (int what : whats) {
+                Due.is("foresee(" + days + ", " + what + ")", y.count(what), x.foresee(days, what));
+            }
+        }
+        Due.is("none yet", 0, x.count(3));
+        Due.is("behind 1 day: 18 and 6 work", 1, x.foresee(1, 3));
+        Due.is("behind 3 days: 36 and 12 work", 4, x.foresee(3, 3));
+        Due.is("rough ones, with no mill on the days 2 and 3", 3, x.foresee(3, 4));
+        Due.is("dressed ones", 1, x.foresee(3, 5));
+        Due.is("dust, 4 by 5 twice", 40, x.foresee(3, 9));
+    }
+
+    private static void foreseeChangesNothing() {
+        GritWheels x = at(2, 3, 150, 9, 8);
+        x.pass(7);
+        x.build(300);
+        x.load(0, 0);
+        x.load(1, 0);
+        x.ship(0);
+        long before = x.digest();
+        x.foresee(40, 3);
+        x.foresee(7, 9);
+        x.foresee(1, 4);
+        Due.is("digest() behind foresee", before, x.digest());
+        Due.is("away", 1, x.raft(0, 3));
+        Due.is("the same again", x.foresee(5, 5), x.foresee(5, 5));
+    }
+
+    private static void foreseeRefused() {
+        GritWheels x = at(1, 0, 200, 9);
+        for (int days : new int[] {-1, 0, 41, LEAST, MOST}) {
+            Due.isIllegal("foresee(" + days + ", 3)", x, () -> x.foresee(days, 3));
+            Due.isIllegal("foresee(" + days + ", 2)", x, () -> x.foresee(days, 2));
+        }
+        for (int what : new int[] {-1, 0, 1, 2, 6, 7, 8, 10, LEAST, MOST}) {
+            Due.isOutside("foresee(1, " + what + ")", x, () -> x.foresee(1, what));
+            Due.isOutside("foresee(40, " + what + ")", x, () -> x.foresee(40, what));
+        }
+        Due.is("40 days: 360 work", 36, x.foresee(40, 3));
+    }
+
+    private static void advise() {
+        GritWheels x = new GritWheels();
+        x.hire(9);
+        Due.is("no beds", -1, x.advise(0, 1));
+        x.open(9, 0, 200);
+        Due.is("the only one", 0, x.advise(0, 1));
+        x.open(5, 0, 200);
+        x.open(5, 0, 200);
+        x.open(5, 9, 200);
+        Due.is("nothing behind 1 day: the smallest number", 0, x.advise(0, 1));
+        Due.is("of the equal ones the smaller", 1, x.advise(0, 2));
+        x.open(1, 0, 0);
+        Due.is("the finest has no stone", 1, x.advise(0, 2));
+        long before = x.digest();
+        x.advise(0, 20);
+        Due.is("digest() behind advise", before, x.digest());
+        Due.is("it is at none", -1, x.quarrier(0, 1));
+    }
+
+    private static void adviseOfTheDays() {
+        GritWheels x = new GritWheels();
+        x.open(4, 0, 5);
+        x.open(5, 0, 200);
+        x.hire(9);
+        // one of 4 (size 5: 30 by 3) beats one of 5 (25 by 3), but two of 5 beat that one
+        Due.is("for 2 days", 0, x.advise(0, 2));
+        Due.is("for 3 days", 1, x.advise(0, 3));
+        Due.is("for 20 days", 1, x.advise(0, 20));
+        x.send(0, 0);
+        x.pass(20);
+        Due.is("all stone is gone, and both give none: dust", 1, x.advise(0, 20));
+    }
+
+    private static void adviseOfTheState() {
+        GritWheels x = new GritWheels();
+        x.open(3, 0, 5);
+        x.open(5, 0, 200);
+        x.hire(9);
+        x.hire(9);
+        Due.is("alone", 0, x.advise(1, 2));
+        x.send(0, 0);
+        Due.is("behind another, who takes the stone", 1, x.advise(1, 2));
+        x.send(0, -1);
+        x.send(1, 0);
+        Due.is("where it is counts for nothing", 0, x.advise(1, 2));
+        // cracks: flaw 9 leaves one wheel of ten sound
+        GritWheels y = new GritWheels();
+        y.open(1, 9, 200);
+        y.open(7, 0, 200);
+        y.hire(9);
+        Due.is("cracks are worth a fifth", 1, y.advise(0, 10));
+        // dressing counts: three times the worth
+        GritWheels z = new GritWheels();
+        z.open(5, 0, 200);
+        z.open(4, 9, 200);
+        z.hire(9);
+        Due.is("sound ones of more grit", 0, z.advise(0, 5));
+    }
+
+    private static void adviseRefused() {
+        GritWheels x = new GritWheels();
+        Due.isOutside("advise(0, 1)", x, () -> x.advise(0, 1));
+        x.hire(5);
+        for (int days : new int[] {-1, 0, 21, LEAST, MOST}) {
+            Due.isIllegal("without beds: advise(0, " + days + ")", x, () -> x.advise(0, days));
+        }
+        x.open(1, 1, 100);
+        for (int quarrier : new int[] {-1, 1, 6, LEAST, MOST}) {
+            Due.isOutside("advise(" + quarrier + ", 1)", x, () -> x.advise(quarrier, 1));
+            Due.isOutside("advise(" + quarrier + ", 0)", x, () -> x.advise(quarrier, 0));
+        }
+        for (int days : new int[] {-1, 0, 21, 40, LEAST, MOST}) {
+            Due.isIllegal("advise(0, " + days + ")", x, () -> x.advise(0, days));
+        }
+        Due.is("1 day", 0, x.advise(0, 1));
+        Due.is("20 days", 0, x.advise(0, 20));
+    }
+
+    private static void share() {
+        GritWheels x = at(3, 4, 200, 9);
+        Due.isDouble("none", 0, x.share());
+        x.pass(2);
+        Due.isDouble("one sound", 1, x.share());
+        x.pass(1);
+        Due.isDouble("and a crack", 0.5, x.share());
+        x.pass(1);
+        Due.isDouble("and a crack again", 1.0 / 3, x.share());
+        x.smash(0);
+        Due.isDouble("a broken one is as sound as it was", 1.0 / 3, x.share());
+    }
+
+    private static void digest() {
+        GritWheels x = new GritWheels();
+        int[] first = {0, 5, 1, 0, 0, 0, 0, 0, 0, 0, 5, 5, 5, 5, 5, 5, 5, 5, 5};
+        Due.is("digest() of a new object", joined(first), x.digest());
+        Due.is("digest() twice", x.digest(), x.digest());
+        x.open(3, 4, 60);
+        x.hire(9);
+        x.send(0, 0);
+        x.pass(2);
+        x.build(100);
+        x.load(0, 0);
+        int[] then = {2, 5, 1, 1, 0, 0, 1, 0, 0, 8, 5, 5, 5, 5, 5, 5, 5, 5, 5,
+            3, 4, 55, 1, 1, 1, 9, 0, 8, 8, 13, 0, 5, 50, 2, 105, 0, 100, 50, 1, 0};
+        Due.is("digest() with all of them", joined(then), x.digest());
+    }
+
+    private static long joined(int[] numbers) {
+        long d = 1237;
+        for (int x : numbers) {
+            d = d * 31 + x;
+        }
+        return d;
+    }
+
+    private static void digestOfMany() {
+        GritWheels x = new GritWheels();
+        x.open(3, 4, 60);
+        x.open(2, 7, 90);
+        x.hire(9);
+        x.hire(6);
+        x.send(0, 0);
+        x.send(1, 1);
+        x.setFall(4, 9);
+        x.pass(9);
+        x.build(100);
+        x.build(200);
+        x.load(0, 1);
+        x.ship(1);
+        long d = 1237;
+        for (int what = 0; what < 10; what++) {
+            d = d * 31 + x.count(what);
+        }
+        for (int water : new int[] {5, 5, 5, 5, 9, 5, 5, 5, 5}) {
+            d = d * 31 + water;
+        }
+        for (int i = 0; i < 12; i++) {
+            d = d * 31 + x.bed(i / 6, i % 6);
+        }
+        for (int i = 0; i < 10; i++) {
+            d = d * 31 + x.quarrier(i / 5, i % 5);
+        }
+        for (int i = 0; i < x.count(3) * 6; i++) {
+            d = d * 31 + x.wheel(i / 6, i % 6);
+        }
+        for (int i = 0; i < 8; i++) {
+            d = d * 31 + x.raft(i / 4, i % 4);
+        }
+        Due.is("digest() of many", d, x.digest());
+    }
+}
