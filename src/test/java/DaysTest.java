@@ -8,14 +8,18 @@ public final class DaysTest {
         passDust();
         passStone();
         passManyWheels();
+        passBehindTheLastWheel();
         passMill();
         passRefused();
         foresee();
+        foreseeOfAllKinds();
         foreseeChangesNothing();
         foreseeRefused();
         advise();
         adviseOfTheDays();
         adviseOfTheState();
+        adviseOfTheNextCracks();
+        adviseOfTheRoughOnes();
         adviseRefused();
         share();
         digest();
@@ -125,6 +129,29 @@ public final class DaysTest {
         Due.is("stone is left", 1, x.bed(4, 2) > 0 ? 1 : 0);
     }
 
+    private static void passBehindTheLastWheel() {
+        GritWheels x = new GritWheels();
+        for (int i = 0; i < 5; i++) {
+            x.open(1, 0, 200);
+        }
+        for (int i = 0; i < 6; i++) {
+            x.hire(9);
+            x.send(i, i % 5);
+        }
+        // on day 11 each has cut 10 with 108 work
+        Due.is("ten of each", 60, x.pass(12));
+        int stone = x.bed(0, 2);
+        for (int i = 0; i < 6; i++) {
+            Due.is("work of " + i, 8, x.quarrier(i, 3));
+        }
+        Due.is("no more", 0, x.pass(2));
+        for (int i = 0; i < 6; i++) {
+            Due.is("work is kept by " + i, 26, x.quarrier(i, 3));
+        }
+        Due.is("no stone goes", stone, x.bed(0, 2));
+        Due.is("cut of bed 0", 20, x.bed(0, 4));
+    }
+
     private static void passMill() {
         GritWheels x = at(1, 0, 200, 9, 9, 9, 9, 9);
         x.setFall(0, 0);
@@ -184,6 +211,40 @@ public final class DaysTest {
         Due.is("rough ones, with no mill on the days 2 and 3", 3, x.foresee(3, 4));
         Due.is("dressed ones", 1, x.foresee(3, 5));
         Due.is("dust, 4 by 5 twice", 40, x.foresee(3, 9));
+    }
+
+    /** Rough, dressed, loaded, shipped and broken wheels, on day 9, with a mill that often stands still. */
+    private static GritWheels withAllKinds() {
+        GritWheels x = at(2, 4, 190, 9, 8, 7);
+        x.setFall(0, 0);
+        x.setFall(1, 7);
+        for (int day = 3; day < 9; day++) {
+            x.setFall(day, day % 4);
+        }
+        x.pass(9);
+        x.build(400);
+        x.setFall(0, 9);
+        x.load(0, 0);
+        x.ship(0);
+        x.build(400);
+        x.load(1, 1);
+        x.smash(2);
+        x.smash(14);
+        return x;
+    }
+
+    private static void foreseeOfAllKinds() {
+        GritWheels x = withAllKinds();
+        Due.is("rough ones", 1, x.count(4) > 2 ? 1 : 0);
+        Due.is("loaded ones", 1, x.count(6));
+        Due.is("shipped ones", 1, x.count(7));
+        for (int days = 1; days <= 40; days++) {
+            GritWheels y = withAllKinds();
+            y.pass(days);
+            for (int what : new int[] {3, 4, 5, 9}) {
+                Due.is("of all kinds, foresee(" + days + ", " + what + ")", y.count(what), x.foresee(days, what));
+            }
+        }
     }
 
     private static void foreseeChangesNothing() {
@@ -272,6 +333,43 @@ public final class DaysTest {
         z.open(4, 9, 200);
         z.hire(9);
         Due.is("sound ones of more grit", 0, z.advise(0, 5));
+    }
+
+    private static void adviseOfTheNextCracks() {
+        GritWheels x = new GritWheels();
+        x.open(3, 4, 200);
+        x.open(5, 0, 200);
+        x.hire(9);
+        x.send(0, 0);
+        x.pass(2);
+        Due.is("n 1 has a crack: 21 against 75", 1, x.advise(0, 1));
+        GritWheels y = new GritWheels();
+        y.open(3, 4, 200);
+        y.open(5, 0, 200);
+        y.hire(9);
+        Due.is("n 0 is sound: 105 against 75", 0, y.advise(0, 2));
+    }
+
+    private static void adviseOfTheRoughOnes() {
+        GritWheels x = new GritWheels();
+        x.open(1, 0, 5);
+        x.open(5, 0, 200);
+        x.hire(9);
+        x.hire(9);
+        for (int day = 0; day < 9; day++) {
+            x.setFall(day, 0);
+        }
+        // bed 0 gives one of 45, bed 1 gives 25, 25 and 30, from day 1 on
+        Due.is("for 2 days: 45 against 25", 0, x.advise(0, 2));
+        Due.is("for 4 days, without a mill: 45 against 80", 1, x.advise(0, 4));
+        x.setFall(3, 3);
+        Due.is("the mill dresses the first: 135 against 130", 0, x.advise(0, 4));
+        x.send(1, 1);
+        x.pass(2);
+        x.send(1, -1);
+        Due.is("one is rough", 1, x.count(4));
+        // from day 3 on, 54 or 30, 25 and 25; were the first of these dressed: 162 against 140
+        Due.is("the mill dresses the rough one: 54 against 80", 1, x.advise(0, 4));
     }
 
     private static void adviseRefused() {
