@@ -1,31 +1,17 @@
 /** Promises 1 to 5: a new object, setFall, open, hire, send. */
 public final class BedsAndQuarriersTest {
-    private static final int LEAST = Integer.MIN_VALUE;
-    private static final int MOST = Integer.MAX_VALUE;
-
     public static void main(String[] args) {
         newObject();
         setFall();
-        setFallRefused();
         open();
-        openRefused();
         hire();
-        hireRefused();
         send();
-        sendRefused();
         Due.end();
     }
 
     private static void newObject() {
         GritWheels x = new GritWheels();
-        int[] counts = {0, 5, 1, 0, 0, 0, 0, 0, 0, 0};
-        for (int what = 0; what < counts.length; what++) {
-            Due.is("new: count(" + what + ")", counts[what], x.count(what));
-        }
-        Due.isOutside("new: bed(0, 0)", x, () -> x.bed(0, 0));
-        Due.isOutside("new: quarrier(0, 0)", x, () -> x.quarrier(0, 0));
-        Due.isOutside("new: wheel(0, 0)", x, () -> x.wheel(0, 0));
-        Due.isOutside("new: raft(0, 0)", x, () -> x.raft(0, 0));
+        Due.areFacts("new: count", new int[] {0, 5, 1, 0, 0, 0, 0, 0, 0, 0}, x::count);
         Due.isDouble("new: share()", 0, x.share());
         GritWheels y = new GritWheels();
         y.open(1, 1, 1);
@@ -46,18 +32,6 @@ public final class BedsAndQuarriersTest {
         }
     }
 
-    private static void setFallRefused() {
-        GritWheels x = new GritWheels();
-        for (int day : new int[] {-1, 9, 10, LEAST, MOST}) {
-            Due.isOutside("setFall(" + day + ", 0)", x, () -> x.setFall(day, 0));
-            Due.isOutside("setFall(" + day + ", 10)", x, () -> x.setFall(day, 10));
-        }
-        for (int water : new int[] {-1, 10, LEAST, MOST}) {
-            Due.isIllegal("setFall(0, " + water + ")", x, () -> x.setFall(0, water));
-            Due.isIllegal("setFall(8, " + water + ")", x, () -> x.setFall(8, water));
-        }
-    }
-
     private static void open() {
         GritWheels x = new GritWheels();
         int[][] beds = {{1, 0, 0}, {9, 9, 200}, {5, 3, 77}, {2, 8, 1}, {3, 1, 199}};
@@ -72,22 +46,6 @@ public final class BedsAndQuarriersTest {
             Due.is("cut of it", 0, x.bed(i, 4));
             Due.is("sound ones of it", 0, x.bed(i, 5));
         }
-        Due.isUntimely("a sixth bed", x, () -> x.open(1, 0, 0));
-        Due.isIllegal("a sixth bed without grit", x, () -> x.open(0, 0, 0));
-    }
-
-    private static void openRefused() {
-        GritWheels x = new GritWheels();
-        for (int grit : new int[] {-1, 0, 10, LEAST, MOST}) {
-            Due.isIllegal("open(" + grit + ", 0, 0)", x, () -> x.open(grit, 0, 0));
-        }
-        for (int flaw : new int[] {-1, 10, LEAST, MOST}) {
-            Due.isIllegal("open(1, " + flaw + ", 0)", x, () -> x.open(1, flaw, 0));
-        }
-        for (int stone : new int[] {-1, 201, LEAST, MOST}) {
-            Due.isIllegal("open(1, 0, " + stone + ")", x, () -> x.open(1, 0, stone));
-        }
-        Due.is("the first bed behind these", 0, x.open(1, 0, 0));
     }
 
     private static void hire() {
@@ -103,16 +61,6 @@ public final class BedsAndQuarriersTest {
             Due.is("work", 0, x.quarrier(i, 3));
             Due.is("days", -1, x.quarrier(i, 4));
         }
-        Due.isUntimely("a seventh quarrier", x, () -> x.hire(1));
-        Due.isIllegal("a seventh quarrier without skill", x, () -> x.hire(0));
-    }
-
-    private static void hireRefused() {
-        GritWheels x = new GritWheels();
-        for (int skill : new int[] {-1, 0, 10, LEAST, MOST}) {
-            Due.isIllegal("hire(" + skill + ")", x, () -> x.hire(skill));
-        }
-        Due.is("the first quarrier behind these", 0, x.hire(1));
     }
 
     private static void send() {
@@ -134,20 +82,5 @@ public final class BedsAndQuarriersTest {
         Due.is("work is kept", 4, x.quarrier(0, 3));
         Due.is("dust is kept", 3, x.quarrier(0, 2));
         Due.is("quarriers at 1 still", 1, x.bed(1, 3));
-    }
-
-    private static void sendRefused() {
-        GritWheels x = new GritWheels();
-        Due.isOutside("send(0, -1) of nobody", x, () -> x.send(0, -1));
-        x.hire(4);
-        Due.isOutside("send(0, 0) to no bed", x, () -> x.send(0, 0));
-        x.open(1, 0, 100);
-        x.send(0, 0);
-        for (int quarrier : new int[] {-1, 1, 6, LEAST, MOST}) {
-            Due.isOutside("send(" + quarrier + ", 0)", x, () -> x.send(quarrier, 0));
-        }
-        for (int bed : new int[] {-2, 1, 5, LEAST, MOST}) {
-            Due.isOutside("send(0, " + bed + ")", x, () -> x.send(0, bed));
-        }
     }
 }

@@ -1,45 +1,26 @@
 /** Promises 16 to 20: pass, foresee, advise, share, digest. */
 public final class DaysTest {
-    private static final int LEAST = Integer.MIN_VALUE;
-    private static final int MOST = Integer.MAX_VALUE;
-
     public static void main(String[] args) {
         passWork();
         passDust();
         passStone();
         passManyWheels();
-        passBehindTheLastWheel();
         passMill();
-        passRefused();
         foresee();
         foreseeOfAllKinds();
         foreseeChangesNothing();
-        foreseeRefused();
         advise();
         adviseOfTheDays();
         adviseOfTheState();
         adviseOfTheNextCracks();
         adviseOfTheRoughOnes();
-        adviseRefused();
         share();
         digest();
-        digestOfMany();
         Due.end();
     }
 
-    /** One bed and quarriers of these skills, all at it. */
-    private static GritWheels at(int grit, int flaw, int stone, int... skills) {
-        GritWheels x = new GritWheels();
-        x.open(grit, flaw, stone);
-        for (int i = 0; i < skills.length; i++) {
-            x.hire(skills[i]);
-            x.send(i, 0);
-        }
-        return x;
-    }
-
     private static void passWork() {
-        GritWheels x = at(1, 0, 200, 7);
+        GritWheels x = Made.at(1, 0, 200, 7);
         Due.is("7 work", 0, x.pass(1));
         Due.is("14 work", 1, x.pass(1));
         Due.is("4 left", 4, x.quarrier(0, 3));
@@ -51,7 +32,7 @@ public final class DaysTest {
         Due.is("5 left", 5, x.quarrier(0, 3));
         Due.is("12, 9, 16, 13", 3, x.pass(4));
         Due.is("the day", 9, x.count(0));
-        GritWheels y = at(1, 0, 200, 5, 1);
+        GritWheels y = Made.at(1, 0, 200, 5, 1);
         y.pass(10);
         Due.is("day 9, size 1 + 2 + 1", 4, y.wheel(4, 1));
         Due.is("day 9, size 1 + 0 + 1, behind the first quarrier", 2, y.wheel(5, 1));
@@ -59,7 +40,7 @@ public final class DaysTest {
     }
 
     private static void passDust() {
-        GritWheels x = at(8, 0, 0, 3);
+        GritWheels x = Made.at(8, 0, 0, 3);
         x.hire(9);
         x.pass(6);
         Due.is("6 by 9", 54, x.quarrier(0, 2));
@@ -90,7 +71,7 @@ public final class DaysTest {
     }
 
     private static void passStone() {
-        GritWheels x = at(1, 0, 6, 9, 9);
+        GritWheels x = Made.at(1, 0, 6, 9, 9);
         Due.is("two of size 5 from 6", 2, x.pass(2));
         Due.is("stone is not below 0", 0, x.bed(0, 2));
         Due.is("size of the second", 5, x.wheel(1, 1));
@@ -129,31 +110,8 @@ public final class DaysTest {
         Due.is("stone is left", 1, x.bed(4, 2) > 0 ? 1 : 0);
     }
 
-    private static void passBehindTheLastWheel() {
-        GritWheels x = new GritWheels();
-        for (int i = 0; i < 5; i++) {
-            x.open(1, 0, 200);
-        }
-        for (int i = 0; i < 6; i++) {
-            x.hire(9);
-            x.send(i, i % 5);
-        }
-        // on day 11 each has cut 10 with 108 work
-        Due.is("ten of each", 60, x.pass(12));
-        int stone = x.bed(0, 2);
-        for (int i = 0; i < 6; i++) {
-            Due.is("work of " + i, 8, x.quarrier(i, 3));
-        }
-        Due.is("no more", 0, x.pass(2));
-        for (int i = 0; i < 6; i++) {
-            Due.is("work is kept by " + i, 26, x.quarrier(i, 3));
-        }
-        Due.is("no stone goes", stone, x.bed(0, 2));
-        Due.is("cut of bed 0", 20, x.bed(0, 4));
-    }
-
     private static void passMill() {
-        GritWheels x = at(1, 0, 200, 9, 9, 9, 9, 9);
+        GritWheels x = Made.at(1, 0, 200, 9, 9, 9, 9, 9);
         x.setFall(0, 0);
         x.setFall(1, 2);
         x.setFall(2, 3);
@@ -170,32 +128,21 @@ public final class DaysTest {
         Due.is("not the broken one", 4, x.wheel(1, 3));
         Due.is("the sixth", 1, x.wheel(5, 3));
         Due.is("not the seventh", 0, x.wheel(6, 3));
-        GritWheels y = at(1, 0, 200, 9);
+        GritWheels y = Made.at(1, 0, 200, 9);
         y.setFall(1, 3);
         y.pass(2);
         Due.is("dressed on the day it is cut", 1, y.wheel(0, 3));
     }
 
-    private static void passRefused() {
-        GritWheels x = at(1, 0, 200, 9);
-        for (int days : new int[] {-1, 0, 41, LEAST, MOST}) {
-            Due.isIllegal("pass(" + days + ")", x, () -> x.pass(days));
-        }
-        Due.is("1 day", 0, x.pass(1));
-        // dust comes to 60, and is 56 on the same day, so it never rests: 41 by 9 work
-        Due.is("40 days", 36, x.pass(40));
-        Due.is("the day", 41, x.count(0));
-    }
-
     private static void foresee() {
         int[] whats = {3, 4, 5, 9};
-        GritWheels x = at(4, 5, 120, 9, 3, 6);
+        GritWheels x = Made.at(4, 5, 120, 9, 3, 6);
         x.send(2, -1);
         x.setFall(2, 0);
         x.setFall(3, 1);
         x.pass(1);
         for (int days = 1; days <= 40; days++) {
-            GritWheels y = at(4, 5, 120, 9, 3, 6);
+            GritWheels y = Made.at(4, 5, 120, 9, 3, 6);
             y.send(2, -1);
             y.setFall(2, 0);
             y.setFall(3, 1);
@@ -215,7 +162,7 @@ public final class DaysTest {
 
     /** Rough, dressed, loaded, shipped and broken wheels, on day 9, with a mill that often stands still. */
     private static GritWheels withAllKinds() {
-        GritWheels x = at(2, 4, 190, 9, 8, 7);
+        GritWheels x = Made.at(2, 4, 190, 9, 8, 7);
         x.setFall(0, 0);
         x.setFall(1, 7);
         for (int day = 3; day < 9; day++) {
@@ -248,7 +195,7 @@ public final class DaysTest {
     }
 
     private static void foreseeChangesNothing() {
-        GritWheels x = at(2, 3, 150, 9, 8);
+        GritWheels x = Made.at(2, 3, 150, 9, 8);
         x.pass(7);
         x.build(300);
         x.load(0, 0);
@@ -261,19 +208,6 @@ public final class DaysTest {
         Due.is("digest() behind foresee", before, x.digest());
         Due.is("away", 1, x.raft(0, 3));
         Due.is("the same again", x.foresee(5, 5), x.foresee(5, 5));
-    }
-
-    private static void foreseeRefused() {
-        GritWheels x = at(1, 0, 200, 9);
-        for (int days : new int[] {-1, 0, 41, LEAST, MOST}) {
-            Due.isIllegal("foresee(" + days + ", 3)", x, () -> x.foresee(days, 3));
-            Due.isIllegal("foresee(" + days + ", 2)", x, () -> x.foresee(days, 2));
-        }
-        for (int what : new int[] {-1, 0, 1, 2, 6, 7, 8, 10, LEAST, MOST}) {
-            Due.isOutside("foresee(1, " + what + ")", x, () -> x.foresee(1, what));
-            Due.isOutside("foresee(40, " + what + ")", x, () -> x.foresee(40, what));
-        }
-        Due.is("40 days: 360 work", 36, x.foresee(40, 3));
     }
 
     private static void advise() {
@@ -372,27 +306,8 @@ public final class DaysTest {
         Due.is("the mill dresses the rough one: 54 against 80", 1, x.advise(0, 4));
     }
 
-    private static void adviseRefused() {
-        GritWheels x = new GritWheels();
-        Due.isOutside("advise(0, 1)", x, () -> x.advise(0, 1));
-        x.hire(5);
-        for (int days : new int[] {-1, 0, 21, LEAST, MOST}) {
-            Due.isIllegal("without beds: advise(0, " + days + ")", x, () -> x.advise(0, days));
-        }
-        x.open(1, 1, 100);
-        for (int quarrier : new int[] {-1, 1, 6, LEAST, MOST}) {
-            Due.isOutside("advise(" + quarrier + ", 1)", x, () -> x.advise(quarrier, 1));
-            Due.isOutside("advise(" + quarrier + ", 0)", x, () -> x.advise(quarrier, 0));
-        }
-        for (int days : new int[] {-1, 0, 21, 40, LEAST, MOST}) {
-            Due.isIllegal("advise(0, " + days + ")", x, () -> x.advise(0, days));
-        }
-        Due.is("1 day", 0, x.advise(0, 1));
-        Due.is("20 days", 0, x.advise(0, 20));
-    }
-
     private static void share() {
-        GritWheels x = at(3, 4, 200, 9);
+        GritWheels x = Made.at(3, 4, 200, 9);
         Due.isDouble("none", 0, x.share());
         x.pass(2);
         Due.isDouble("one sound", 1, x.share());
@@ -426,41 +341,5 @@ public final class DaysTest {
             d = d * 31 + x;
         }
         return d;
-    }
-
-    private static void digestOfMany() {
-        GritWheels x = new GritWheels();
-        x.open(3, 4, 60);
-        x.open(2, 7, 90);
-        x.hire(9);
-        x.hire(6);
-        x.send(0, 0);
-        x.send(1, 1);
-        x.setFall(4, 9);
-        x.pass(9);
-        x.build(100);
-        x.build(200);
-        x.load(0, 1);
-        x.ship(1);
-        long d = 1237;
-        for (int what = 0; what < 10; what++) {
-            d = d * 31 + x.count(what);
-        }
-        for (int water : new int[] {5, 5, 5, 5, 9, 5, 5, 5, 5}) {
-            d = d * 31 + water;
-        }
-        for (int i = 0; i < 12; i++) {
-            d = d * 31 + x.bed(i / 6, i % 6);
-        }
-        for (int i = 0; i < 10; i++) {
-            d = d * 31 + x.quarrier(i / 5, i % 5);
-        }
-        for (int i = 0; i < x.count(3) * 6; i++) {
-            d = d * 31 + x.wheel(i / 6, i % 6);
-        }
-        for (int i = 0; i < 8; i++) {
-            d = d * 31 + x.raft(i / 4, i % 4);
-        }
-        Due.is("digest() of many", d, x.digest());
     }
 }

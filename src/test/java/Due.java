@@ -5,10 +5,23 @@ final class Due {
         long answer();
     }
 
+    /** A call of which one parameter is tried with several values. */
+    interface CallOf {
+        long answer(int value);
+    }
+
+    private static final int[] ENDS_OF_INT = {Integer.MIN_VALUE, Integer.MAX_VALUE};
+
     private static int asked = 0;
     private static int wrong = 0;
+    private static String sentence = "";
 
     private Due() {
+    }
+
+    /** The sentence that the next answers are held to; it is told with each that is not as due. */
+    static void by(String sentenceOfTheDocument) {
+        sentence = sentenceOfTheDocument;
     }
 
     static void is(String call, long want, long got) {
@@ -22,6 +35,20 @@ final class Due {
         asked++;
         if (got != want) {
             tellWrong(call + " answered " + got + ", due is " + want);
+        }
+    }
+
+    static void holds(String what, boolean held) {
+        asked++;
+        if (!held) {
+            tellWrong("it does not hold: " + what);
+        }
+    }
+
+    /** What is told for 0, 1 and so on, one after another. */
+    static void areFacts(String of, int[] want, CallOf got) {
+        for (int what = 0; what < want.length; what++) {
+            is(of + ", " + what, want[what], got.answer(what));
         }
     }
 
@@ -51,9 +78,27 @@ final class Due {
         isRefused(call, IllegalStateException.class, x, made);
     }
 
+    /** Each of these values is refused, and so are the smallest and the largest int. */
+    static void areOutside(String call, GritWheels x, CallOf made, int... values) {
+        areRefused(call, IndexOutOfBoundsException.class, x, made, values);
+    }
+
+    static void areIllegal(String call, GritWheels x, CallOf made, int... values) {
+        areRefused(call, IllegalArgumentException.class, x, made, values);
+    }
+
+    private static void areRefused(String call, Class<? extends RuntimeException> want, GritWheels x, CallOf made,
+            int[] values) {
+        for (int[] some : new int[][] {values, ENDS_OF_INT}) {
+            for (int value : some) {
+                isRefused(call + " for " + value, want, x, () -> made.answer(value));
+            }
+        }
+    }
+
     static void tellWrong(String text) {
         wrong++;
-        System.out.println(text);
+        System.out.println(sentence.isEmpty() ? text : text + " (" + sentence + ")");
     }
 
     /** The last line of each test's main. */

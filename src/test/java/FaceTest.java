@@ -47,24 +47,20 @@ public final class FaceTest {
         Due.end();
     }
 
-    private static void holds(String what, boolean held) {
-        Due.is(what + " (1 yes, 0 no)", 1, held ? 1 : 0);
-    }
-
     private static void face() {
         Set<String> want = new TreeSet<>(Arrays.asList(FACE));
         Set<String> got = new TreeSet<>();
         for (Method method : GritWheels.class.getDeclaredMethods()) {
             if (Modifier.isPublic(method.getModifiers())) {
-                holds(method.getName() + " is no static one", !Modifier.isStatic(method.getModifiers()));
+                Due.holds(method.getName() + " is no static one", !Modifier.isStatic(method.getModifiers()));
                 got.add(told(method));
             }
         }
-        holds("the public methods are " + want + ", not " + got, want.equals(got));
+        Due.holds("the public methods are " + want + ", not " + got, want.equals(got));
         Constructor<?>[] constructors = GritWheels.class.getDeclaredConstructors();
         Due.is("constructors", 1, constructors.length);
         Due.is("its parameters", 0, constructors[0].getParameterCount());
-        holds("it is public", Modifier.isPublic(constructors[0].getModifiers()));
+        Due.holds("it is public", Modifier.isPublic(constructors[0].getModifiers()));
         Due.is("the class", Modifier.PUBLIC | Modifier.FINAL, GritWheels.class.getModifiers());
     }
 
@@ -87,38 +83,38 @@ public final class FaceTest {
         }
         for (Method method : GritWheels.class.getDeclaredMethods()) {
             if (!Modifier.isPublic(method.getModifiers())) {
-                holds(method + " is private", Modifier.isPrivate(method.getModifiers()));
-                holds(method + " has a name of its own", !names.contains(method.getName()));
+                Due.holds(method + " is private", Modifier.isPrivate(method.getModifiers()));
+                Due.holds(method + " has a name of its own", !names.contains(method.getName()));
             }
         }
         for (Field field : GritWheels.class.getDeclaredFields()) {
-            holds(field + " is private", Modifier.isPrivate(field.getModifiers()));
-            holds(field + " is final if it is static",
+            Due.holds(field + " is private", Modifier.isPrivate(field.getModifiers()));
+            Due.holds(field + " is final if it is static",
                 !Modifier.isStatic(field.getModifiers()) || Modifier.isFinal(field.getModifiers()));
         }
         for (Class<?> inside : GritWheels.class.getDeclaredClasses()) {
             for (Method method : inside.getDeclaredMethods()) {
-                holds(method + " has a name of its own", !names.contains(method.getName()));
+                Due.holds(method + " has a name of its own", !names.contains(method.getName()));
             }
         }
     }
 
     private static void nested() {
         for (Class<?> inside : GritWheels.class.getDeclaredClasses()) {
-            holds(inside + " is static", Modifier.isStatic(inside.getModifiers()));
-            holds(inside + " is not public", !Modifier.isPublic(inside.getModifiers()));
+            Due.holds(inside + " is static", Modifier.isStatic(inside.getModifiers()));
+            Due.holds(inside + " is not public", !Modifier.isPublic(inside.getModifiers()));
             for (Field field : inside.getDeclaredFields()) {
-                holds(field + " is no static one", !Modifier.isStatic(field.getModifiers()));
+                Due.holds(field + " is no static one", !Modifier.isStatic(field.getModifiers()));
             }
         }
-        holds("at most twelve classes", GritWheels.class.getDeclaredClasses().length < 12);
+        Due.holds("at most twelve classes", GritWheels.class.getDeclaredClasses().length < 12);
     }
 
     private static void text() throws IOException {
         String text = Files.readString(Path.of("src/main/java/GritWheels.java"));
         for (String word : RULED_OUT) {
-            holds("the text is without: " + word, !text.contains(word));
+            Due.holds("the text is without: " + word, !text.contains(word));
         }
-        holds("the text is ASCII", text.chars().allMatch(sign -> sign > 0 && sign < 128));
+        Due.holds("the text is ASCII", text.chars().allMatch(sign -> sign > 0 && sign < 128));
     }
 }

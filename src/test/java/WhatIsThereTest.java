@@ -1,27 +1,13 @@
 /** Promises 11 to 15: bed, quarrier, wheel, raft, count. */
 public final class WhatIsThereTest {
-    private static final int LEAST = Integer.MIN_VALUE;
-    private static final int MOST = Integer.MAX_VALUE;
-
     public static void main(String[] args) {
         bed();
-        bedRefused();
         quarrier();
         daysUntilDusty();
-        quarrierRefused();
         wheel();
-        wheelRefused();
         raft();
-        raftRefused();
         count();
-        countRefused();
         Due.end();
-    }
-
-    private static void areFacts(String of, int[] want, java.util.function.IntUnaryOperator got) {
-        for (int what = 0; what < want.length; what++) {
-            Due.is(of + ", " + what, want[what], got.applyAsInt(what));
-        }
     }
 
     private static void bed() {
@@ -37,27 +23,14 @@ public final class WhatIsThereTest {
         x.pass(4);
         // days 1 to 3, two wheels each: n 0 to 5, of the sizes 5, 5, 5, 5, 6, 6
         // (7 * n + 3 * size) % 10 is 5, 2, 9, 6, 6, 3
-        areFacts("bed 0", new int[] {3, 4, 28, 2, 6, 4}, what -> x.bed(0, what));
+        Due.areFacts("bed 0", new int[] {3, 4, 28, 2, 6, 4}, what -> x.bed(0, what));
         // days 1 and 3: of the sizes 3 and 4
-        areFacts("bed 1", new int[] {9, 0, 4, 1, 2, 2}, what -> x.bed(1, what));
+        Due.areFacts("bed 1", new int[] {9, 0, 4, 1, 2, 2}, what -> x.bed(1, what));
         x.pass(5);
         // day 5: 3; day 7 is for rest; day 8: 3 of the one that is left
-        areFacts("bed 1 without stone", new int[] {9, 0, 0, 1, 4, 4}, what -> x.bed(1, what));
+        Due.areFacts("bed 1 without stone", new int[] {9, 0, 0, 1, 4, 4}, what -> x.bed(1, what));
         x.send(2, -1);
         Due.is("nobody at it", 0, x.bed(1, 3));
-    }
-
-    private static void bedRefused() {
-        GritWheels x = new GritWheels();
-        Due.isOutside("bed(0, 0)", x, () -> x.bed(0, 0));
-        x.open(1, 1, 1);
-        x.open(1, 1, 1);
-        for (int bed : new int[] {-1, 2, 5, LEAST, MOST}) {
-            Due.isOutside("bed(" + bed + ", 0)", x, () -> x.bed(bed, 0));
-        }
-        for (int what : new int[] {-1, 6, LEAST, MOST}) {
-            Due.isOutside("bed(1, " + what + ")", x, () -> x.bed(1, what));
-        }
     }
 
     private static void quarrier() {
@@ -68,10 +41,10 @@ public final class WhatIsThereTest {
         x.hire(4);
         x.send(0, 1);
         x.pass(2);
-        areFacts("quarrier 0", new int[] {7, 1, 6, 4, 18}, what -> x.quarrier(0, what));
-        areFacts("quarrier 1", new int[] {4, -1, 0, 0, -1}, what -> x.quarrier(1, what));
+        Due.areFacts("quarrier 0", new int[] {7, 1, 6, 4, 18}, what -> x.quarrier(0, what));
+        Due.areFacts("quarrier 1", new int[] {4, -1, 0, 0, -1}, what -> x.quarrier(1, what));
         x.send(0, 0);
-        areFacts("quarrier 0 at 0", new int[] {7, 0, 6, 4, 9}, what -> x.quarrier(0, what));
+        Due.areFacts("quarrier 0 at 0", new int[] {7, 0, 6, 4, 9}, what -> x.quarrier(0, what));
     }
 
     private static void daysUntilDusty() {
@@ -109,19 +82,6 @@ public final class WhatIsThereTest {
         Due.is("3 by 10", 1, x.quarrier(0, 4));
     }
 
-    private static void quarrierRefused() {
-        GritWheels x = new GritWheels();
-        Due.isOutside("quarrier(0, 0)", x, () -> x.quarrier(0, 0));
-        x.hire(1);
-        x.hire(1);
-        for (int quarrier : new int[] {-1, 2, 6, LEAST, MOST}) {
-            Due.isOutside("quarrier(" + quarrier + ", 0)", x, () -> x.quarrier(quarrier, 0));
-        }
-        for (int what : new int[] {-1, 5, LEAST, MOST}) {
-            Due.isOutside("quarrier(1, " + what + ")", x, () -> x.quarrier(1, what));
-        }
-    }
-
     private static void wheel() {
         GritWheels x = new GritWheels();
         x.open(9, 0, 0);
@@ -134,43 +94,23 @@ public final class WhatIsThereTest {
         x.pass(4);
         // day 1: 16, size 5, (0 + 15) % 10 = 5, sound; day 2: 14, size 5, (7 + 15) % 10 = 2, a crack;
         // day 3: 12, size 6, (14 + 18) % 10 = 2, a crack
-        areFacts("sound and rough", new int[] {1, 5, 50, 0, 30, -1}, what -> x.wheel(0, what));
-        areFacts("a crack and rough", new int[] {1, 5, 50, 0, 6, -1}, what -> x.wheel(1, what));
-        areFacts("of size 6", new int[] {1, 6, 72, 0, 7, -1}, what -> x.wheel(2, what));
+        Due.areFacts("sound and rough", new int[] {1, 5, 50, 0, 30, -1}, what -> x.wheel(0, what));
+        Due.areFacts("a crack and rough", new int[] {1, 5, 50, 0, 6, -1}, what -> x.wheel(1, what));
+        Due.areFacts("of size 6", new int[] {1, 6, 72, 0, 7, -1}, what -> x.wheel(2, what));
         x.setFall(4, 4);
         x.pass(1);
-        areFacts("sound and dressed", new int[] {1, 5, 50, 1, 90, -1}, what -> x.wheel(0, what));
-        areFacts("a crack and dressed", new int[] {1, 5, 50, 1, 18, -1}, what -> x.wheel(1, what));
-        areFacts("rough still", new int[] {1, 6, 72, 0, 7, -1}, what -> x.wheel(2, what));
+        Due.areFacts("sound and dressed", new int[] {1, 5, 50, 1, 90, -1}, what -> x.wheel(0, what));
+        Due.areFacts("a crack and dressed", new int[] {1, 5, 50, 1, 18, -1}, what -> x.wheel(1, what));
+        Due.areFacts("rough still", new int[] {1, 6, 72, 0, 7, -1}, what -> x.wheel(2, what));
         x.build(100);
         x.build(100);
         x.load(1, 1);
-        areFacts("a crack and loaded", new int[] {1, 5, 50, 2, 18, 1}, what -> x.wheel(1, what));
+        Due.areFacts("a crack and loaded", new int[] {1, 5, 50, 2, 18, 1}, what -> x.wheel(1, what));
         x.setFall(5, 2);
         x.ship(1);
-        areFacts("a crack and shipped", new int[] {1, 5, 50, 3, 18, -1}, what -> x.wheel(1, what));
+        Due.areFacts("a crack and shipped", new int[] {1, 5, 50, 3, 18, -1}, what -> x.wheel(1, what));
         x.smash(0);
-        areFacts("broken", new int[] {1, 5, 50, 4, 0, -1}, what -> x.wheel(0, what));
-    }
-
-    private static void wheelRefused() {
-        GritWheels x = new GritWheels();
-        Due.isOutside("wheel(0, 0)", x, () -> x.wheel(0, 0));
-        x.open(1, 1, 100);
-        x.hire(9);
-        x.send(0, 0);
-        x.pass(3);
-        Due.is("wheels", 2, x.count(3));
-        for (int wheel : new int[] {-1, 2, 59, 60, LEAST, MOST}) {
-            Due.isOutside("wheel(" + wheel + ", 0)", x, () -> x.wheel(wheel, 0));
-        }
-        for (int what : new int[] {-1, 6, LEAST, MOST}) {
-            Due.isOutside("wheel(1, " + what + ")", x, () -> x.wheel(1, what));
-        }
-        // what a look ahead cuts is not there
-        x.foresee(20, 3);
-        x.advise(0, 20);
-        Due.isOutside("wheel(2, 0) behind foresee and advise", x, () -> x.wheel(2, 0));
+        Due.areFacts("broken", new int[] {1, 5, 50, 4, 0, -1}, what -> x.wheel(0, what));
     }
 
     private static void raft() {
@@ -182,32 +122,19 @@ public final class WhatIsThereTest {
         // days 1, 3, 5: of the sizes 3, 4, 3
         x.build(20);
         x.build(100);
-        areFacts("raft 1 at first", new int[] {100, 100, 0, 0}, what -> x.raft(1, what));
+        Due.areFacts("raft 1 at first", new int[] {100, 100, 0, 0}, what -> x.raft(1, what));
         x.load(0, 1);
         x.load(1, 1);
         x.load(2, 0);
-        areFacts("raft 1 with two", new int[] {100, 50, 2, 0}, what -> x.raft(1, what));
-        areFacts("raft 0 with one", new int[] {20, 2, 1, 0}, what -> x.raft(0, what));
+        Due.areFacts("raft 1 with two", new int[] {100, 50, 2, 0}, what -> x.raft(1, what));
+        Due.areFacts("raft 0 with one", new int[] {20, 2, 1, 0}, what -> x.raft(0, what));
         x.ship(1);
-        areFacts("raft 1 away", new int[] {100, 100, 0, 1}, what -> x.raft(1, what));
-        areFacts("raft 0 as before", new int[] {20, 2, 1, 0}, what -> x.raft(0, what));
+        Due.areFacts("raft 1 away", new int[] {100, 100, 0, 1}, what -> x.raft(1, what));
+        Due.areFacts("raft 0 as before", new int[] {20, 2, 1, 0}, what -> x.raft(0, what));
         x.pass(3);
         Due.is("away still", 1, x.raft(1, 3));
         x.pass(1);
-        areFacts("raft 1 back", new int[] {100, 100, 0, 0}, what -> x.raft(1, what));
-    }
-
-    private static void raftRefused() {
-        GritWheels x = new GritWheels();
-        Due.isOutside("raft(0, 0)", x, () -> x.raft(0, 0));
-        x.build(20);
-        x.build(20);
-        for (int raft : new int[] {-1, 2, 3, LEAST, MOST}) {
-            Due.isOutside("raft(" + raft + ", 0)", x, () -> x.raft(raft, 0));
-        }
-        for (int what : new int[] {-1, 4, LEAST, MOST}) {
-            Due.isOutside("raft(1, " + what + ")", x, () -> x.raft(1, what));
-        }
+        Due.areFacts("raft 1 back", new int[] {100, 100, 0, 0}, what -> x.raft(1, what));
     }
 
     private static void count() {
@@ -221,32 +148,25 @@ public final class WhatIsThereTest {
         x.setFall(1, 2);
         x.setFall(2, 3);
         x.setFall(3, 9);
-        areFacts("day 0", new int[] {0, 0, 0, 0, 0, 0, 0, 0, 0, 0}, what -> x.count(what));
+        Due.areFacts("day 0", new int[] {0, 0, 0, 0, 0, 0, 0, 0, 0, 0}, what -> x.count(what));
         x.pass(1);
-        areFacts("day 1", new int[] {1, 2, 0, 0, 0, 0, 0, 0, 0, 6}, what -> x.count(what));
+        Due.areFacts("day 1", new int[] {1, 2, 0, 0, 0, 0, 0, 0, 0, 6}, what -> x.count(what));
         x.pass(1);
-        areFacts("day 2", new int[] {2, 3, 1, 2, 2, 0, 0, 0, 0, 12}, what -> x.count(what));
+        Due.areFacts("day 2", new int[] {2, 3, 1, 2, 2, 0, 0, 0, 0, 12}, what -> x.count(what));
         x.pass(1);
-        areFacts("day 3", new int[] {3, 9, 1, 4, 3, 1, 0, 0, 0, 18}, what -> x.count(what));
+        Due.areFacts("day 3", new int[] {3, 9, 1, 4, 3, 1, 0, 0, 0, 18}, what -> x.count(what));
         x.pass(1);
-        areFacts("day 4", new int[] {4, 5, 1, 6, 1, 5, 0, 0, 0, 24}, what -> x.count(what));
+        Due.areFacts("day 4", new int[] {4, 5, 1, 6, 1, 5, 0, 0, 0, 24}, what -> x.count(what));
         x.build(400);
         x.load(0, 0);
         x.load(1, 0);
         x.smash(2);
-        areFacts("loaded", new int[] {4, 5, 1, 6, 1, 2, 2, 0, 0, 24}, what -> x.count(what));
+        Due.areFacts("loaded", new int[] {4, 5, 1, 6, 1, 2, 2, 0, 0, 24}, what -> x.count(what));
         x.ship(0);
         // two of size 5, grit 2, sound and dressed: 5 * 8 * 3 each
-        areFacts("shipped", new int[] {4, 5, 1, 6, 1, 2, 0, 2, 240, 24}, what -> x.count(what));
+        Due.areFacts("shipped", new int[] {4, 5, 1, 6, 1, 2, 0, 2, 240, 24}, what -> x.count(what));
         x.pass(5);
         Due.is("the first water again, behind 9 days", 0, x.count(1));
         Due.is("no mill", 0, x.count(2));
-    }
-
-    private static void countRefused() {
-        GritWheels x = new GritWheels();
-        for (int what : new int[] {-1, 10, LEAST, MOST}) {
-            Due.isOutside("count(" + what + ")", x, () -> x.count(what));
-        }
     }
 }
