@@ -239,6 +239,10 @@ final class EdgesOfWhatIsThere {
         Doc.says("Promise 15", "8 coins that were paid in all, 9 dust of all quarriers, added");
         GritWheels x = Made.withEachKind();
         Due.areFacts("one of each, and a broken one", new int[] {6, 5, 1, 5, 1, 1, 1, 1, 21, 24}, x::count);
+        x.load(3, 1);
+        Due.areFacts("two that are loaded", new int[] {6, 5, 1, 5, 1, 0, 2, 1, 21, 24}, x::count);
+        x.ship(1);
+        Due.areFacts("three that are shipped", new int[] {6, 5, 1, 5, 1, 0, 0, 3, 151, 24}, x::count);
     }
 
     private static void countRefused() {

@@ -276,6 +276,8 @@ final class EdgesOfWheelsAndRafts {
         }
         Due.isUntimely("a ninth", x, () -> x.load(8, 0));
         Due.areFacts("the raft", new int[] {400, 0, 8, 0}, what -> x.raft(0, what));
+        Due.is("eight of 60 go", 8 * 135, x.ship(0));
+        Due.areFacts("the raft then", new int[] {400, 400, 0, 1}, what -> x.raft(0, what));
     }
 
     private static void shipTheFirstAndTheLast() {
