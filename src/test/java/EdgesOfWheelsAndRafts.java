@@ -82,7 +82,10 @@ final class EdgesOfWheelsAndRafts {
         }
     }
 
-    /** A wheel took as much as its size, and more than half of this, so a bed that had 200 cannot come above 199. */
+    /**
+     * No run comes above 199: a wheel gives back less than it took, unless it took the last stone; and above
+     * none at all, sixty wheels give back 180 at most.
+     */
     private static void smashNearTheMostStone() {
         Doc.says("Promise 7", "more stone (200 at most)");
         GritWheels x = Made.behindWork(10, 1, 0, 200, 1);
