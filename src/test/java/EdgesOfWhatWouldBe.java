@@ -25,6 +25,7 @@ final class EdgesOfWhatWouldBe {
         adviseByTheFallGoingRound();
         adviseForThe60thWheel();
         adviseChangesNothing();
+        looksLeaveTheRaftsAlone();
         shareOfNone();
         shareOfAllAndOfNoneSound();
         digestStartsWith1237();
@@ -231,6 +232,32 @@ final class EdgesOfWhatWouldBe {
             y.pass(1);
         }
         Due.is("digest() in the end", y.digest(), x.digest());
+    }
+
+    /** The day on which a raft is back can't be told ahead, so that digest() alone would not show it moved. */
+    private static void looksLeaveTheRaftsAlone() {
+        Doc.says("Terms", "(so one that goes on the day 0 is away up to the day 3, with it, "
+            + "and at the quay as the day is 4)");
+        Due.Call[] looks = new Due.Call[8];
+        for (int look = 0; look < looks.length; look++) {
+            GritWheels x = Made.withEachKind();
+            looks[0] = () -> x.foresee(40, 9);
+            looks[1] = () -> x.advise(0, 20);
+            looks[2] = () -> x.share() > 0 ? 1 : 0;
+            looks[3] = x::digest;
+            looks[4] = () -> x.raft(0, 3);
+            looks[5] = () -> x.count(0);
+            looks[6] = () -> x.wheel(1, 3) + x.bed(0, 2) + x.quarrier(0, 2);
+            looks[7] = () -> x.ring(2);
+            for (int day = 0; day < 3; day++) {
+                looks[look].answer();
+                x.pass(1);
+            }
+            looks[look].answer();
+            Due.is("look " + look + ", on the last day away", 1, x.raft(0, 3));
+            x.pass(1);
+            Due.is("look " + look + ", on the first day back", 0, x.raft(0, 3));
+        }
     }
 
     private static void shareOfNone() {

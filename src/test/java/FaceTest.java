@@ -8,9 +8,14 @@ import java.nio.file.Path;
 import java.util.Arrays;
 import java.util.Set;
 import java.util.TreeSet;
+import java.util.regex.Matcher;
+import java.util.regex.Pattern;
 
 /** The public face of the document, and those rules of LANGUAGE.md that can be read off the class or its text. */
 public final class FaceTest {
+    private static final Path CLASS = Path.of("src/main/java/GritWheels.java");
+    private static final Path DOCUMENT = Path.of("../shared/DOC.md");
+
     private static final String[] FACE = {
         "int setFall(int, int) IndexOutOfBoundsException IllegalArgumentException",
         "int open(int, int, int) IllegalArgumentException IllegalStateException",
@@ -44,6 +49,8 @@ public final class FaceTest {
         members();
         nested();
         text();
+        linesOfTheDocument();
+        sectionsOfTheDocument();
         Due.end();
     }
 
@@ -111,10 +118,58 @@ public final class FaceTest {
     }
 
     private static void text() throws IOException {
-        String text = Files.readString(Path.of("src/main/java/GritWheels.java"));
+        String text = Files.readString(CLASS);
         for (String word : RULED_OUT) {
             Due.holds("the text is without: " + word, !text.contains(word));
         }
         Due.holds("the text is ASCII", text.chars().allMatch(sign -> sign > 0 && sign < 128));
+    }
+
+    /** Each line of the document's face stands in the class, names of parameters too, and in that order. */
+    private static void linesOfTheDocument() throws IOException {
+        String text = Files.readString(CLASS);
+        String document = Files.readString(DOCUMENT);
+        int start = document.indexOf("```java");
+        Due.holds("the document has a face", start >= 0);
+        int found = 0;
+        int place = -1;
+        for (String line : document.substring(start, document.indexOf("}", start)).split("\n")) {
+            String said = line.strip();
+            if (said.startsWith("public ")) {
+                String wanted = said.replaceFirst(";$", " {");
+                int next = text.indexOf(wanted);
+                Due.holds("the class has, in its order: " + wanted, next > place);
+                place = next;
+                found++;
+            }
+        }
+        Due.is("lines of the face, with the class and the constructor", FACE.length + 2, found);
+    }
+
+    /** "Ahead of the calls .. the interface says": the comment stands ahead of the first, behind those before. */
+    private static void sectionsOfTheDocument() throws IOException {
+        String text = Files.readString(CLASS);
+        int found = 0;
+        int place = text.indexOf("public GritWheels()");
+        for (String line : Files.readAllLines(DOCUMENT)) {
+            if (line.startsWith("Ahead of the calls ")) {
+                String[] parts = line.replaceFirst("\\.$", "").split(" the interface says: ");
+                int comment = text.indexOf("// " + parts[1]);
+                Due.holds("a comment behind the calls before: " + parts[1], comment > place);
+                place = comment;
+                for (String call : parts[0].substring("Ahead of the calls ".length()).split(", ")) {
+                    int next = placeOfMethod(text, call.replace("`", ""));
+                    Due.holds("behind what is ahead of it: " + call, next > place);
+                    place = next;
+                }
+                found++;
+            }
+        }
+        Due.is("sections", 4, found);
+    }
+
+    private static int placeOfMethod(String text, String name) {
+        Matcher matcher = Pattern.compile("public \\w+ " + name + "\\(").matcher(text);
+        return matcher.find() ? matcher.start() : -1;
     }
 }
